@@ -78,7 +78,7 @@ final class Check {
         return desk.table(letter - 'a', text.length());
     }
 
-    /** Empties the TAPE and changes nothing else: a letter becomes what the bytes fed tell, itself. */
+    /** Empties the TAPE by an empty SHAPE: but for the latest FAULT nothing else changes. */
     static void clear(NameDesk desk) {
         desk.shape(0, 0);
     }
