@@ -23,6 +23,7 @@ final class Model {
     private final List<String> names = new ArrayList<>();
     private final List<Integer> lands = new ArrayList<>();
     private final String[] table = new String[26];
+    private final java.util.Map<Integer, List<String>> rowsFound = new java.util.HashMap<>();
 
     Model() {
         for (int i = 0; i < 26; i++) {
@@ -61,6 +62,7 @@ final class Model {
             return -1;
         }
         shapes[land] = text;
+        rowsFound.clear();
         return text.split(";")[0].replaceAll("[^A-Z]", "").length();
     }
 
@@ -145,6 +147,7 @@ final class Model {
             return -1;
         }
         tape = "";
+        rowsFound.clear();
         return book.size();
     }
 
@@ -154,6 +157,7 @@ final class Model {
             return false;
         }
         tape = "";
+        rowsFound.clear();
         return true;
     }
 
@@ -207,6 +211,10 @@ final class Model {
 
     /** Each as its COST in two digits and its KINDS' numbers, in order. */
     List<String> rows(int name) {
+        return rowsFound.computeIfAbsent(name, this::findRows);
+    }
+
+    private List<String> findRows(int name) {
         List<String> rows = new ArrayList<>();
         int land = lands.get(name);
         if (shapes[land] == null) {

@@ -6,16 +6,23 @@ public final class ModelTest {
     private static final String[] STEMS = {"a", "b", "ab", "ba", "abs", "bas", "A.", "B'", "s", "as", "Abas", "o'B-a"};
     private static final String[] ENDINGS = {"-", "s", "as", "abs", "x"};
     private static final String MARKS = "?*+";
+    private static final String[] KIN_SLOTS = {"G*M+", "I?G*M", "G+M?G?", "M?G*F?M?", "F?G*M*"};
 
     private final Random random;
     private final NameDesk desk = new NameDesk();
     private final Model model = new Model();
     private final int lands;
+    /** In an easy run most NAMES have a READING. */
+    private final boolean easy;
+    /** In a run of kin many NAMES have a made WORD. */
+    private final boolean kin;
     private int calls = 0;
 
     private ModelTest(long seed) {
         random = new Random(seed);
         lands = 1 + random.nextInt(3);
+        easy = random.nextInt(3) != 0;
+        kin = random.nextInt(3) == 0;
     }
 
     public static void main(String[] args) {
@@ -66,7 +73,7 @@ public final class ModelTest {
     }
 
     private String spoil(String text) {
-        if (pick(4) != 0) {
+        if (pick(easy ? 20 : 4) != 0) {
             return text;
         }
         int at = pick(text.length() + 1);
@@ -89,11 +96,14 @@ public final class ModelTest {
 
     private String shapeText() {
         StringBuilder text = new StringBuilder();
+        if (kin && pick(4) != 0) {
+            return KIN_SLOTS[pick(KIN_SLOTS.length)] + ";" + letters() + ";" + letters() + ";s.";
+        }
         int many = pick(25) == 0 ? 9 : 1 + pick(8);
         for (int i = 0; i < many; i++) {
             text.append(pick(3) == 0 ? Model.KINDS.charAt(pick(7)) : "GFGFMI".charAt(pick(6)));
-            if (pick(4) != 0) {
-                text.append(MARKS.charAt(pick(3)));
+            if (pick(easy ? 20 : 4) != 0) {
+                text.append(MARKS.charAt(easy && pick(4) != 0 ? 1 : pick(3)));
             }
         }
         text.append(';').append(letters()).append(';').append(letters()).append(';');
@@ -170,7 +180,7 @@ public final class ModelTest {
         int many = desk.count(1);
         int a = near(many);
         int b = near(many);
-        int k = near(12);
+        int k = near(pick(2) == 0 ? 3 : 12);
         int w = near(6);
         calls += 2;
         switch (pick(12)) {
