@@ -31,6 +31,7 @@ public final class NameDesk {
 
     /** Stands among the SLOTS that may take the next WORD: the NAME may end there. */
     private static final int END = 1 << MAX_SLOTS;
+    private static final int OPEN_MASK = 2 * END - 1;
 
     /** Greater than every sum of costs: it can't be read so. */
     private static final int FAR = 1000;
@@ -192,7 +193,8 @@ public final class NameDesk {
             case 1:
                 return names[name].size;
             case 2:
-                return placeInOrder(name);
+                rank();
+                return placeInRanking(name);
             case 3:
                 return freshName(name).keySize;
             case 4:
@@ -355,8 +357,7 @@ public final class NameDesk {
         ranked = true;
     }
 
-    private int placeInOrder(int name) {
-        rank();
+    private int placeInRanking(int name) {
         for (int k = 0; k < nameCount; k++) {
             if (ranking[k] == name) {
                 return k;
@@ -1061,7 +1062,7 @@ public final class NameDesk {
             int longer = 0;
             for (int i = 0; i < rowCount; i++) {
                 long row = rows[i];
-                int open = (int) row & (END | END - 1);
+                int open = (int) row & OPEN_MASK;
                 for (int k = 0; k < KINDS; k++) {
                     int next = shape.openBehind(open, k);
                     if (costs[w][k] + leastFrom(w + 1, next) < FAR && longer < MAX_ROWS) {
