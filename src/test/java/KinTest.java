@@ -38,10 +38,25 @@ public final class KinTest {
         check.due("as far as both have some", agree("Jon Roe", "Jon Kim Roe"), 1);
         check.due("none at all", agree("Roe", "Jon Kim Roe"), 1);
         check.due("titles and particles aside", agree("Dr. Jon von Roe", "Jon Roe"), 1);
+        check.due("the last of seven another", agree("Jon a b c d e f Roe", "Jon a b c d e g Roe"), 0);
+        check.due("seven alike", agree("Jon a b c d e f Roe", "J. a b c d e fa Roe"), 1);
         check.due("initials among given", agree("Jon K. Roe", "J. Kim Roe"), 1);
     }
 
+    private static void agreeOfEight(String shape, String eighth, int due) {
+        NameDesk desk = new NameDesk();
+        Check.shape(desk, 0, shape);
+        Check.name(desk, 0, "a b c d e f g ha");
+        Check.name(desk, 0, "a b c d e f g " + eighth);
+        check.due(shape + eighth, desk.agree(0, 1), due);
+    }
+
     private static void agreeNone() {
+        agreeOfEight("G+;G;G;-.", "hb", 0);
+        agreeOfEight("G+;G;G;-.", "h", 1);
+        agreeOfEight("F+;G;G;-.", "hb", 0);
+        agreeOfEight("F+;G;G;-.", "h", 0);
+        agreeOfEight("F+;G;G;-.", "Ha.", 1);
         NameDesk desk = new NameDesk();
         Check.shape(desk, 0, "G?F+;F;F;-.");
         Check.shape(desk, 1, "G?F+;F;F;-.");

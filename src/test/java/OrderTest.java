@@ -52,6 +52,9 @@ public final class OrderTest {
         check.due("KEY in the order of SORT", Check.line(desk, 0, 2), "zed yo bob al");
         check.due("CALL in the order of CALL", Check.line(desk, 0, 0), "Bob Al Zed Yo.");
         check.due("WORDS in KEY", Check.look(desk, 0, 3), 4);
+        String longest = "Abcdefghijklmnopqrst.";
+        Check.name(desk, 0, longest + " " + longest);
+        check.due("CALL of the longest", Check.line(desk, 1, 0), longest + " " + longest);
         Check.shape(desk, 0, "G+F+;T;PG;-.");
         check.due("an empty KEY", Check.line(desk, 0, 2), "");
         check.due("WORDS in KEY", Check.look(desk, 0, 3), 0);

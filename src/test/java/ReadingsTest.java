@@ -8,6 +8,7 @@ public final class ReadingsTest {
         slots();
         orderOfReadings();
         bookOfTheLand();
+        greatestCost();
         noneSuch();
         mostReadings();
         check.end();
@@ -70,6 +71,13 @@ public final class ReadingsTest {
         check.due("another ENDING", all(desk, 3), "F:2 M:3");
         Check.know(desk, 0, 1, "jonse");
         check.due("known with it", all(desk, 3), "M:0 F:2");
+        Check.shape(desk, 0, "F?M?;F;F;abcdef.");
+        Check.name(desk, 0, "abcdef");
+        Check.name(desk, 0, "X-abcdef");
+        Check.name(desk, 0, "X-bbcdef");
+        check.due("the longest ENDING alone", all(desk, 4), "F:2");
+        check.due("the longest ENDING", all(desk, 5), "F:2 M:3");
+        check.due("unlike in its first letter", all(desk, 6), "F:2");
     }
 
     private static void rows(String shape, String name, String rows) {
@@ -131,6 +139,20 @@ public final class ReadingsTest {
         check.due("no SHAPE", desk.readings(2, 40), 0);
         Check.shape(desk, 2, "G+;G;G;-.");
         check.due("a SHAPE now", all(desk, 2), "GG:4");
+    }
+
+    private static void greatestCost() {
+        NameDesk desk = new NameDesk();
+        Check.shape(desk, 0, "G*F;F;F;-.");
+        Check.know(desk, 0, 2, "de");
+        Check.name(desk, 0, "de de de de de de de de");
+        Check.name(desk, 0, "de de de de de de de De.");
+        for (int turn = 0; turn < 4; turn++) {
+            check.due("cost", desk.cost(turn % 2, 0), 40);
+            check.due("readings(.., 39)", desk.readings(turn % 2, 39), 0);
+            check.due("readings(.., 40)", desk.readings(turn % 2, 40), 1);
+            check.due("readings(.., 41)", desk.readings(turn % 2, 41), 1);
+        }
     }
 
     private static void noneSuch() {
