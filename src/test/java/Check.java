@@ -103,13 +103,18 @@ final class Check {
     static final int NO_NAME = -101;
     static final int NO_WHAT = -102;
 
+    /** By the class itself: one below it would be the machine's own, not the document's. */
     static int look(NameDesk desk, int name, int what) {
         try {
             return desk.look(name, what);
-        } catch (IndexOutOfBoundsException e) {
-            return NO_NAME;
-        } catch (java.util.NoSuchElementException e) {
-            return NO_WHAT;
+        } catch (IndexOutOfBoundsException | java.util.NoSuchElementException e) {
+            if (e.getClass() == IndexOutOfBoundsException.class) {
+                return NO_NAME;
+            }
+            if (e.getClass() == java.util.NoSuchElementException.class) {
+                return NO_WHAT;
+            }
+            throw e;
         }
     }
 }

@@ -10,7 +10,6 @@ public final class ReadingsTest {
         bookOfTheLand();
         greatestCost();
         noneSuch();
-        mostReadings();
         check.end();
     }
 
@@ -174,43 +173,5 @@ public final class ReadingsTest {
         check.due("kind, w -1", desk.kind(0, 0, -1), -1);
         check.due("kind, greatest w", desk.kind(0, 0, Integer.MAX_VALUE), -1);
         check.due("kind", desk.kind(0, 0, 1), 1);
-    }
-
-    /** A single letter that is known as all it can be, in eight SLOTS that take any number. */
-    private static void mostReadings() {
-        NameDesk desk = new NameDesk();
-        Check.shape(desk, 0, "T*G*P*Q*F*I*T*G*;G;G;-.");
-        for (int kind = 0; kind < 5; kind++) {
-            Check.know(desk, 0, kind, "x");
-        }
-        Check.name(desk, 0, "x x x x x x x x");
-        java.util.TreeSet<String> rows = new java.util.TreeSet<>();
-        grow("TGPQFITG", 0, "", rows);
-        check.due("all READINGS", desk.readings(0, 0), rows.size());
-        java.util.List<String> due = new java.util.ArrayList<>(rows);
-        java.util.Comparator<String> byNumbers = (a, b) -> numbers(a).compareTo(numbers(b));
-        due.sort(byNumbers);
-        for (int r = 0; r < due.size(); r++) {
-            check.due("row " + r, Check.row(desk, 0, r), due.get(r));
-        }
-        check.due("no more", desk.cost(0, due.size()), -1);
-    }
-
-    private static String numbers(String row) {
-        StringBuilder text = new StringBuilder();
-        for (char letter : row.toCharArray()) {
-            text.append("TGPQFMI".indexOf(letter));
-        }
-        return text.toString();
-    }
-
-    private static void grow(String slots, int slot, String row, java.util.Set<String> rows) {
-        if (row.length() == 8) {
-            rows.add(row);
-            return;
-        }
-        for (int s = slot; s < slots.length(); s++) {
-            grow(slots, s, row + slots.charAt(s), rows);
-        }
     }
 }
