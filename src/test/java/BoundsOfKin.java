@@ -29,24 +29,15 @@ final class BoundsOfKin {
         bounds.sentence(15, "or no M, no G.", this::fatherNoKind);
     }
 
-    private static Desk desk(String shape, String... names) {
-        Desk desk = new Desk();
-        desk.shape(0, shape);
-        for (String name : names) {
-            desk.name(0, name);
-        }
-        return desk;
-    }
-
     private void agrees(String shape, String one, String other, int due) {
-        Desk desk = desk(shape, one, other);
+        Desk desk = Desk.of(shape, one, other);
         bounds.due(shape + " " + one + ", " + other, desk.agree(0, 1), due);
         bounds.due(shape + " " + other + ", " + one, desk.agree(1, 0), due);
         bounds.due("the same one", desk.agree(0, 0), 1);
     }
 
     private void bothRead() {
-        Desk desk = desk("GF;G;G;-.", "Ann Lee", "Ann Lee", "Ann", "Ann");
+        Desk desk = Desk.of("GF;G;G;-.", "Ann Lee", "Ann Lee", "Ann", "Ann");
         bounds.due("both", desk.agree(0, 1), 1);
         bounds.due("the first alone", desk.agree(0, 2), -1);
         bounds.due("the second alone", desk.agree(2, 0), -1);
@@ -101,7 +92,7 @@ final class BoundsOfKin {
         agrees("G+;F;F;-.", "a b c d e f g ha", "a b c d e f g ha", 1);
         agrees("G+;F;F;-.", "a b c d e f g ha", "a b c d e f g hb", 0);
         agrees("G+;F;F;-.", "aa b c d e f g h", "ab b c d e f g h", 0);
-        Desk desk = desk("T?G+P?Q?F;F;F;-.", "Dr Ann Lee", "Ann von Lee", "Ann de Lee", "Ann von de Lee");
+        Desk desk = Desk.of("T?G+P?Q?F;F;F;-.", "Dr Ann Lee", "Ann von Lee", "Ann de Lee", "Ann von de Lee");
         desk.know(0, 0, "dr");
         desk.know(0, 2, "von");
         desk.know(0, 3, "de");
@@ -110,7 +101,15 @@ final class BoundsOfKin {
                 bounds.due("T, P, Q aside", desk.agree(a, b), 1);
             }
         }
-        Desk made = desk("GM?F;F;F;son.", "Ann Bobson Lee", "Ann Cidson Lee", "Ann Lee");
+        Desk apart = Desk.of("T*G?P?G*F;F;F;-.", "Dr Dr Ann Bob Lee", "Ann von Bob Lee", "Ann Bob Lee", "Dr Ann von Cid Lee");
+        apart.know(0, 0, "dr");
+        apart.know(0, 2, "von");
+        for (int a = 0; a < 4; a++) {
+            for (int b = 0; b < 4; b++) {
+                bounds.due("at other WORDS, " + a + ", " + b, apart.agree(a, b), (a == 3) == (b == 3) ? 1 : 0);
+            }
+        }
+        Desk made = Desk.of("GM?F;F;F;son.", "Ann Bobson Lee", "Ann Cidson Lee", "Ann Lee");
         bounds.due("M aside", made.agree(0, 1) + made.agree(0, 2), 2);
     }
 
@@ -154,7 +153,7 @@ final class BoundsOfKin {
     }
 
     private void oneOrNought() {
-        Desk desk = desk("G*F;F;F;-.", "Ann Lee", "A Lee", "Bob Lee", "Lee");
+        Desk desk = Desk.of("G*F;F;F;-.", "Ann Lee", "A Lee", "Bob Lee", "Lee");
         int[][] due = {{1, 1, 0, 1}, {1, 1, 0, 1}, {0, 0, 1, 1}, {1, 1, 1, 1}};
         for (int a = 0; a < 4; a++) {
             for (int b = 0; b < 4; b++) {
@@ -170,7 +169,7 @@ final class BoundsOfKin {
             bounds.refused("agree(" + other + ", 0)", -1, "Ann", desk -> desk.agree(other, 0));
             bounds.refused("agree(" + other + ", " + other + ")", -1, "Ann", desk -> desk.agree(other, other));
         }
-        Desk desk = desk("G;G;G;-.", "Ann");
+        Desk desk = Desk.of("G;G;G;-.", "Ann");
         bounds.due("agree(0, 0)", desk.agree(0, 0), 1);
         bounds.due("agree(0, 1)", desk.agree(0, 1), -1);
         bounds.due("agree(1, 0)", desk.agree(1, 0), -1);
@@ -189,7 +188,7 @@ final class BoundsOfKin {
     }
 
     private static Desk kin() {
-        Desk desk = desk("G*M*F*;G;G;son.", "Karl Jonson", "Jon Lee", "Karl Lee", "Jonson", "Lee");
+        Desk desk = Desk.of("G*M*F*;G;G;son.", "Karl Jonson", "Jon Lee", "Karl Lee", "Jonson", "Lee");
         desk.know(0, 1, "Jon");
         desk.know(0, 1, "Karl");
         desk.know(0, 4, "Lee");
@@ -225,7 +224,7 @@ final class BoundsOfKin {
     }
 
     private void firsts() {
-        Desk desk = desk("G*M*;G;G;son.", "Ab-Son Cdson", "A'b Cd", "Cd Ab", "Abs", "A", "Abson", "Ab", "Abc");
+        Desk desk = Desk.of("G*M*;G;G;son.", "Ab-Son Cdson", "A'b Cd", "Cd Ab", "Abs", "A", "Abson", "Ab", "Abc");
         for (String given : new String[] {"Ab", "Cd", "A", "Abs", "Abc"}) {
             desk.know(0, 1, given);
         }
@@ -237,7 +236,7 @@ final class BoundsOfKin {
         bounds.due("a G alone", desk.father(0, 6), 1);
         bounds.due("another letter more", desk.father(0, 7), 0);
         bounds.due("an M alone", desk.father(5, 6), 1);
-        Desk one = desk("G?M?;G;G;n.", "Nn", "N", "Nnn", "M");
+        Desk one = Desk.of("G?M?;G;G;n.", "Nn", "N", "Nnn", "M");
         one.know(0, 1, "n");
         one.know(0, 1, "m");
         one.know(0, 1, "nn");
@@ -246,7 +245,7 @@ final class BoundsOfKin {
         bounds.due("Nnn of Nn", one.father(2, 0), 1);
         bounds.due("Nnn of N", one.father(2, 1), 0);
         bounds.due("Nnn of M", one.father(2, 3), 0);
-        Desk longest = desk("G?M?;G;G;onsson.", "abcdefghijklmnonsson", "Abcdefghijklmn", "Abcdefghijklm");
+        Desk longest = Desk.of("G?M?;G;G;onsson.", "abcdefghijklmnonsson", "Abcdefghijklmn", "Abcdefghijklm");
         longest.know(0, 1, "abcdefghijklmn");
         bounds.due("the longest", longest.father(0, 1), 1);
         bounds.due("one letter less", longest.father(0, 2), 0);
@@ -273,7 +272,7 @@ final class BoundsOfKin {
     }
 
     private void fatherSame() {
-        Desk desk = desk("GM;G;G;son.", "Jon Jonson", "Jon Jonson");
+        Desk desk = Desk.of("GM;G;G;son.", "Jon Jonson", "Jon Jonson");
         bounds.due("the same", desk.father(0, 0), -1);
         bounds.due("another that is alike", desk.father(0, 1), 1);
         bounds.due("the other way", desk.father(1, 0), 1);

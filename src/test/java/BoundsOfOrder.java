@@ -21,17 +21,8 @@ final class BoundsOfOrder {
         bounds.sentence(12, "NONE if there is none such.", this::noneSuch);
     }
 
-    private static Desk desk(String shape, String... names) {
-        Desk desk = new Desk();
-        desk.shape(0, shape);
-        for (String name : names) {
-            desk.name(0, name);
-        }
-        return desk;
-    }
-
     private static Desk allKinds(String sortAndCall) {
-        Desk desk = desk("T?G*P?Q?F*M?I?;" + sortAndCall + ";son.", "Dr. A'nn Bo Von De Le-e Karlson X.");
+        Desk desk = Desk.of("T?G*P?Q?F*M?I?;" + sortAndCall + ";son.", "Dr. A'nn Bo Von De Le-e Karlson X.");
         desk.know(0, 0, "dr");
         desk.know(0, 1, "ann");
         desk.know(0, 1, "bo");
@@ -49,16 +40,16 @@ final class BoundsOfOrder {
         bounds.due("WORDS", allKinds("IMFQPGT;F").look(0, 3), 8);
         bounds.due("QFG", allKinds("QFG;F").keyOf(0), "de lee ann bo");
         bounds.due("one KIND", allKinds("T;F").keyOf(0), "dr");
-        Desk none = desk("G+;F;F;-.", "aa bb");
+        Desk none = Desk.of("G+;F;F;-.", "aa bb");
         bounds.due("no WORD of the KIND", none.keyOf(0), "");
         bounds.due("WORDS in it", none.look(0, 3), 0);
-        Desk longest = desk("G+;G;G;-.", (TWENTY + ". ").repeat(8).trim());
+        Desk longest = Desk.of("G+;G;G;-.", (TWENTY + ". ").repeat(8).trim());
         bounds.due("the longest", longest.keyOf(0), (TWENTY + " ").repeat(8).trim());
         bounds.due("WORDS in it", longest.look(0, 3), 8);
     }
 
     private void ordered(String due, String... names) {
-        Desk desk = desk("G+;G;G;-.", names);
+        Desk desk = Desk.of("G+;G;G;-.", names);
         bounds.due(String.join(", ", names), desk.order(), due);
         String[] places = due.split(" ");
         for (int k = 0; k < places.length; k++) {
@@ -90,12 +81,14 @@ final class BoundsOfOrder {
         ordered("1 0", "a a a a a a a ab", "a a a a a a a a");
         refusedAhead("ab", "a", "1 0");
         refusedAhead("a", "ab", "0 1");
+        refusedAhead("ab", "a'-.", "1 0");
+        refusedAhead("a'-.", "ab", "0 1");
     }
 
     /** Longer WORDS of NAMES that were refused must not show behind the shorter ones of those that came. */
     private void refusedAhead(String one, String other, String due) {
         for (String refused : new String[] {"azz  ", "aaa  "}) {
-            Desk desk = desk("G+;G;G;-.");
+            Desk desk = Desk.of("G+;G;G;-.");
             for (String name : new String[] {one, other}) {
                 bounds.due("name " + refused, desk.name(0, refused), -1);
                 desk.clear();
@@ -111,7 +104,7 @@ final class BoundsOfOrder {
         ordered("1 0", "ab", "aa bb");
         ordered("1 0", "aab", "aa b");
         ordered("1 0", "a a a a a a a a", "a a a a a a a");
-        Desk desk = desk("G*F*;F;F;-.", "bb", "aa", "cc");
+        Desk desk = Desk.of("G*F*;F;F;-.", "bb", "aa", "cc");
         desk.know(0, 4, "bb");
         desk.know(0, 4, "cc");
         bounds.due("an empty KEY", desk.order(), "1 0 2");
@@ -138,7 +131,7 @@ final class BoundsOfOrder {
         ordered("0 1 2", "A-a", "aa.", "AA");
         ordered("3 0 2 1", "bb", "cc", "bb", "aa");
         ordered("1 3 0 2 4", "bb", "aa", "bb", "aa", "bb");
-        Desk desk = desk("G*F*;F;F;-.", "aa bb", "cc bb", "bb");
+        Desk desk = Desk.of("G*F*;F;F;-.", "aa bb", "cc bb", "bb");
         desk.know(0, 4, "bb");
         bounds.due("by KEYS alone", desk.order(), "0 1 2");
         Desk lands = new Desk();
@@ -181,12 +174,12 @@ final class BoundsOfOrder {
         bounds.due("from the last on", allKinds("F;IMFQPGT").callOf(0), "X. Karlson Le-e De Von A'nn Bo Dr.");
         bounds.due("TF", allKinds("F;TF").callOf(0), "Dr. Le-e");
         bounds.due("one KIND", allKinds("F;G").callOf(0), "A'nn Bo");
-        bounds.due("no WORD of the KIND", desk("G+;G;F;-.", "aa bb").callOf(0), "");
-        bounds.due("a KIND without WORDS ahead", desk("G+;G;TG;-.", "aa bb").callOf(0), "aa bb");
-        bounds.due("a KIND without WORDS behind", desk("G+;G;GT;-.", "aa bb").callOf(0), "aa bb");
-        bounds.due("without READING", desk("G;G;G;-.", "aa bb").callOf(0), "");
+        bounds.due("no WORD of the KIND", Desk.of("G+;G;F;-.", "aa bb").callOf(0), "");
+        bounds.due("a KIND without WORDS ahead", Desk.of("G+;G;TG;-.", "aa bb").callOf(0), "aa bb");
+        bounds.due("a KIND without WORDS behind", Desk.of("G+;G;GT;-.", "aa bb").callOf(0), "aa bb");
+        bounds.due("without READING", Desk.of("G;G;G;-.", "aa bb").callOf(0), "");
         String longest = (TWENTY + ". ").repeat(8).trim();
-        Desk desk = desk("G+;G;G;-.", longest);
+        Desk desk = Desk.of("G+;G;G;-.", longest);
         bounds.due("the longest", desk.callOf(0), longest);
         bounds.due("its signs", desk.look(0, 4), 175);
     }

@@ -38,19 +38,10 @@ final class BoundsOfReadings {
         bounds.sentence(10, "NONE if there is none such.", this::kindNone);
     }
 
-    private static Desk desk(String shape, String... names) {
-        Desk desk = new Desk();
-        desk.shape(0, shape);
-        for (String name : names) {
-            desk.name(0, name);
-        }
-        return desk;
-    }
-
     private void kindNumbers() {
         String[] words = {"dr", "ann", "van", "de", "lee", "annson", "x"};
         for (int kind = 0; kind < 7; kind++) {
-            Desk desk = desk(KINDS.charAt(kind) + ";G;G;son.", words[kind]);
+            Desk desk = Desk.of(KINDS.charAt(kind) + ";G;G;son.", words[kind]);
             if (kind < 5) {
                 desk.know(0, kind, words[kind]);
             }
@@ -81,7 +72,7 @@ final class BoundsOfReadings {
         bounds.due("one that does not fit", desk.readings(0, Bounds.MOST), 0);
         desk.shape(3, "G+;G;G;-.");
         bounds.due("its own now", desk.all(0), "GG:4");
-        Desk two = desk("GG*;G;G;-.", "aa bb");
+        Desk two = Desk.of("GG*;G;G;-.", "aa bb");
         two.shape(1, "TG*;G;G;-.");
         two.name(1, "aa bb");
         two.name(2, "aa bb");
@@ -94,28 +85,28 @@ final class BoundsOfReadings {
     }
 
     private void rowsOfSlots() {
-        bounds.due("one for one", desk("G;G;G;-.", "aa").all(0), "G:2");
-        bounds.due("too few WORDS", desk("GF;G;G;-.", "aa").all(0), "");
-        bounds.due("too many WORDS", desk("GF;G;G;-.", "aa bb cc").all(0), "");
-        bounds.due("GF", desk("GF;G;G;-.", "aa bb").all(0), "GF:4");
-        bounds.due("FG", desk("FG;G;G;-.", "aa bb").all(0), "FG:4");
-        bounds.due("G*F*", desk("G*F*;G;G;-.", "aa bb").all(0), "GG:4 GF:4 FF:4");
-        bounds.due("F?G?", desk("F?G?;G;G;-.", "aa").all(0), "G:2 F:2");
-        bounds.due("F?G?", desk("F?G?;G;G;-.", "aa bb").all(0), "FG:4");
-        bounds.due("F?G?", desk("F?G?;G;G;-.", "aa bb cc").all(0), "");
-        bounds.due("G+FG*", desk("G+FG*;G;G;-.", "aa bb cc").all(0), "GGF:6 GFG:6");
-        bounds.due("GF+G?", desk("GF+G?;G;G;-.", "aa bb cc").all(0), "GFG:6 GFF:6");
-        bounds.due("eight", desk("GFGFGFGF;G;G;-.", "aa bb cc dd ee ff gg hh").all(0), "GFGFGFGF:16");
-        bounds.due("the last repeats", desk("F+G*;G;G;-.", "aa bb cc").all(0), "FGG:6 FFG:6 FFF:6");
+        bounds.due("one for one", Desk.of("G;G;G;-.", "aa").all(0), "G:2");
+        bounds.due("too few WORDS", Desk.of("GF;G;G;-.", "aa").all(0), "");
+        bounds.due("too many WORDS", Desk.of("GF;G;G;-.", "aa bb cc").all(0), "");
+        bounds.due("GF", Desk.of("GF;G;G;-.", "aa bb").all(0), "GF:4");
+        bounds.due("FG", Desk.of("FG;G;G;-.", "aa bb").all(0), "FG:4");
+        bounds.due("G*F*", Desk.of("G*F*;G;G;-.", "aa bb").all(0), "GG:4 GF:4 FF:4");
+        bounds.due("F?G?", Desk.of("F?G?;G;G;-.", "aa").all(0), "G:2 F:2");
+        bounds.due("F?G?", Desk.of("F?G?;G;G;-.", "aa bb").all(0), "FG:4");
+        bounds.due("F?G?", Desk.of("F?G?;G;G;-.", "aa bb cc").all(0), "");
+        bounds.due("G+FG*", Desk.of("G+FG*;G;G;-.", "aa bb cc").all(0), "GGF:6 GFG:6");
+        bounds.due("GF+G?", Desk.of("GF+G?;G;G;-.", "aa bb cc").all(0), "GFG:6 GFF:6");
+        bounds.due("eight", Desk.of("GFGFGFGF;G;G;-.", "aa bb cc dd ee ff gg hh").all(0), "GFGFGFGF:16");
+        bounds.due("the last repeats", Desk.of("F+G*;G;G;-.", "aa bb cc").all(0), "FGG:6 FFG:6 FFF:6");
     }
 
     private void eachRowOnce() {
-        bounds.due("G*G*", desk("G*G*;G;G;-.", "aa bb cc").all(0), "GGG:6");
-        bounds.due("G?G?G?", desk("G?G?G?;G;G;-.", "aa").all(0), "G:2");
-        bounds.due("G?G?G?", desk("G?G?G?;G;G;-.", "aa bb").all(0), "GG:4");
-        bounds.due("G*F?G*", desk("G*F?G*;G;G;-.", "aa bb").all(0), "GG:4 GF:4 FG:4");
-        bounds.due("eight G*", desk("G*G*G*G*G*G*G*G*;G;G;-.", "aa bb cc dd ee ff gg hh").readings(0, 40), 1);
-        Desk desk = desk("G*F*G*F*G*F*G*F*;G;G;-.", "aa bb cc dd ee ff gg hh");
+        bounds.due("G*G*", Desk.of("G*G*;G;G;-.", "aa bb cc").all(0), "GGG:6");
+        bounds.due("G?G?G?", Desk.of("G?G?G?;G;G;-.", "aa").all(0), "G:2");
+        bounds.due("G?G?G?", Desk.of("G?G?G?;G;G;-.", "aa bb").all(0), "GG:4");
+        bounds.due("G*F?G*", Desk.of("G*F?G*;G;G;-.", "aa bb").all(0), "GG:4 GF:4 FG:4");
+        bounds.due("eight G*", Desk.of("G*G*G*G*G*G*G*G*;G;G;-.", "aa bb cc dd ee ff gg hh").readings(0, 40), 1);
+        Desk desk = Desk.of("G*F*G*F*G*F*G*F*;G;G;-.", "aa bb cc dd ee ff gg hh");
         Set<String> rows = new TreeSet<>();
         grow("GFGFGFGF", 0, "", rows);
         bounds.due("G and F in turn", desk.readings(0, 40), rows.size());
@@ -178,14 +169,14 @@ final class BoundsOfReadings {
         StringBuilder name = new StringBuilder();
         for (int many = 1; many <= 8; many++) {
             name.append(many == 1 ? "" : " ").append("de");
-            Desk desk = desk("F+;G;G;-.", name.toString());
+            Desk desk = Desk.of("F+;G;G;-.", name.toString());
             bounds.due("unknown, " + many, desk.cost(0, 0), 2 * many);
             desk.know(0, 2, "de");
             bounds.due("a particle, " + many, desk.cost(0, 0), 5 * many);
             desk.know(0, 4, "de");
             bounds.due("known, " + many, desk.cost(0, 0), 0);
         }
-        Desk desk = desk("T?G?G?M?F?F?;G;G;son.", "Dr Jo Al Abson De Lee");
+        Desk desk = Desk.of("T?G?G?M?F?F?;G;G;son.", "Dr Jo Al Abson De Lee");
         desk.know(0, 0, "dr");
         desk.know(0, 1, "al");
         desk.know(0, 3, "de");
@@ -197,7 +188,7 @@ final class BoundsOfReadings {
         for (int kind : new int[] {0, 2, 3}) {
             String letter = "" + KINDS.charAt(kind);
             for (int known = 0; known < 5; known++) {
-                Desk desk = desk(letter + ";G;G;-.", "De", "Dee", "D");
+                Desk desk = Desk.of(letter + ";G;G;-.", "De", "Dee", "D");
                 desk.know(1, kind, "de");
                 bounds.due(letter + " in another LAND's BOOK", desk.all(0), "");
                 desk.know(0, known, "de");
@@ -213,7 +204,7 @@ final class BoundsOfReadings {
     /** Each set of KINDS that the BOOK can have a WORD as. */
     private void givens() {
         for (int set = 0; set < 32; set++) {
-            Desk desk = desk("T?G?P?Q?F?;G;G;-.", "De", "Dee");
+            Desk desk = Desk.of("T?G?P?Q?F?;G;G;-.", "De", "Dee");
             for (int kind = 0; kind < 5; kind++) {
                 desk.know(1, kind, "de");
                 if ((set >> kind & 1) != 0) {
@@ -237,11 +228,11 @@ final class BoundsOfReadings {
     }
 
     private void madeNeedsEnding() {
-        bounds.due("with one", desk("M;G;G;son.", "Jonson").all(0), "M:3");
-        bounds.due("with -", desk("M;G;G;-.", "Jonson").all(0), "");
-        bounds.due("with one letter", desk("M;G;G;n.", "Jonson").all(0), "M:3");
-        bounds.due("with six", desk("M;G;G;jonson.", "Ajonson").all(0), "M:3");
-        Desk desk = desk("M?G?;G;G;son.", "Jonson");
+        bounds.due("with one", Desk.of("M;G;G;son.", "Jonson").all(0), "M:3");
+        bounds.due("with -", Desk.of("M;G;G;-.", "Jonson").all(0), "");
+        bounds.due("with one letter", Desk.of("M;G;G;n.", "Jonson").all(0), "M:3");
+        bounds.due("with six", Desk.of("M;G;G;jonson.", "Ajonson").all(0), "M:3");
+        Desk desk = Desk.of("M?G?;G;G;son.", "Jonson");
         desk.know(0, 1, "Jon");
         bounds.due("its ENDING", desk.all(0), "M:0 G:2");
         desk.shape(0, "M?G?;G;G;-.");
@@ -253,14 +244,18 @@ final class BoundsOfReadings {
     private void madeIsLonger() {
         String[] endings = {"n", "on", "son", "sson", "nsson", "onsson"};
         for (String ending : endings) {
-            Desk desk = desk("M;G;G;" + ending + ".", ending, "A" + ending, "A-" + ending.toUpperCase() + "'.",
+            Desk desk = Desk.of("M;G;G;" + ending + ".", ending, "A" + ending, "A-" + ending.toUpperCase() + "'.",
                     ending.substring(1) + "x", "A" + ending + "s", "Ax" + ending.substring(1), ending + "a");
             String[] due = {"", "M:3", "M:3", "", "", "", ""};
             for (int name = 0; name < due.length; name++) {
                 bounds.due("ENDING " + ending + ", NAME " + name, desk.all(name), due[name]);
             }
         }
-        Desk desk = desk("M;G;G;zzzzzz.", "zzzzzz", "zzzzzzz", "zzzzz", "azzzzzz", "zzzzzzzzzzzzzzzzzzzz", "z");
+        Desk marked = Desk.of("M;G;G;son.", "Son.", "S'on-", "Son-----------------.", "A-son'", "A'-S-on.");
+        for (int name = 0; name < 5; name++) {
+            bounds.due("FOLDED counts, NAME " + name, marked.all(name), name < 3 ? "" : "M:3");
+        }
+        Desk desk = Desk.of("M;G;G;zzzzzz.", "zzzzzz", "zzzzzzz", "zzzzz", "azzzzzz", "zzzzzzzzzzzzzzzzzzzz", "z");
         String[] due = {"", "M:3", "", "M:3", "M:3", ""};
         for (int name = 0; name < due.length; name++) {
             bounds.due("ENDING zzzzzz, NAME " + name, desk.all(name), due[name]);
@@ -268,7 +263,7 @@ final class BoundsOfReadings {
     }
 
     private void madeOfGiven() {
-        Desk desk = desk("M;G;G;son.", "Jon-Son", "Joson", "Jonnson", "Son", "Aabcdefghijklmnopson");
+        Desk desk = Desk.of("M;G;G;son.", "Jon-Son", "Joson", "Jonnson", "Son", "Aabcdefghijklmnopson");
         for (int kind : new int[] {0, 2, 3, 4}) {
             desk.know(0, kind, "Jon");
             bounds.due("known as " + KINDS.charAt(kind), desk.all(0), "M:3");
@@ -294,14 +289,14 @@ final class BoundsOfReadings {
     }
 
     private void initials() {
-        Desk desk = desk("I;G;G;-.", "A", "z", "A.", "B'", "C-------------------.", "ab", "A-b", "a'b.");
+        Desk desk = Desk.of("I;G;G;-.", "A", "z", "A.", "B'", "C-------------------.", "ab", "A-b", "a'b.");
         for (int name = 0; name < 5; name++) {
             bounds.due("one letter, NAME " + name, desk.all(name), "I:0");
         }
         for (int name = 5; name < 8; name++) {
             bounds.due("two letters, NAME " + name, desk.all(name), "");
         }
-        Desk known = desk("I?G?;G;G;-.", "a", "ab");
+        Desk known = Desk.of("I?G?;G;G;-.", "a", "ab");
         known.know(0, 1, "a");
         known.know(0, 1, "ab");
         bounds.due("known as G", known.all(0), "G:0 I:0");
@@ -312,7 +307,7 @@ final class BoundsOfReadings {
     }
 
     private void lesserFirst() {
-        Desk desk = desk("G?F?M?I?;G;G;s.", "as");
+        Desk desk = Desk.of("G?F?M?I?;G;G;s.", "as");
         bounds.due("2, 2, 3", desk.all(0), "G:2 F:2 M:3");
         desk.know(0, 0, "as");
         bounds.due("3, 5, 5", desk.all(0), "M:3 G:5 F:5");
@@ -322,10 +317,10 @@ final class BoundsOfReadings {
         bounds.due("0, 0, 5", desk.all(0), "F:0 M:0 G:5");
         desk.forget(0, 4, "as");
         bounds.due("0, 5, 5", desk.all(0), "M:0 G:5 F:5");
-        Desk two = desk("G*F*M*;G;G;s.", "as bs");
+        Desk two = Desk.of("G*F*M*;G;G;s.", "as bs");
         two.know(0, 4, "as");
         bounds.due("of two WORDS", two.all(0), "FF:2 FM:3 GG:4 GF:4 GM:5 MM:6");
-        Desk eight = desk("T*G*;G;G;-.", "de de de de de de de de");
+        Desk eight = Desk.of("T*G*;G;G;-.", "de de de de de de de de");
         eight.know(0, 0, "de");
         for (int r = 0; r <= 8; r++) {
             bounds.due("from 0 to 40", eight.row(0, r) + eight.cost(0, r), "TTTTTTTTGGGGGGGG".substring(r, r + 8) + 5 * r);
@@ -336,26 +331,26 @@ final class BoundsOfReadings {
     }
 
     private void likeOnes() {
-        Desk desk = desk("F*G*F*;G;G;-.", "aa bb cc");
+        Desk desk = Desk.of("F*G*F*;G;G;-.", "aa bb cc");
         bounds.due("by the first, then the second, then the third", desk.all(0),
                 "GGG:6 GGF:6 GFF:6 FGG:6 FGF:6 FFG:6 FFF:6");
-        Desk all = desk("I?F?Q?P?G?T?;G;G;-.", "x");
+        Desk all = Desk.of("I?F?Q?P?G?T?;G;G;-.", "x");
         for (int kind = 0; kind < 5; kind++) {
             all.know(0, kind, "x");
         }
         bounds.due("all at 0", all.all(0), "T:0 G:0 P:0 Q:0 F:0 I:0");
-        Desk made = desk("I?M?F?;G;G;s.", "as");
+        Desk made = Desk.of("I?M?F?;G;G;s.", "as");
         made.know(0, 1, "a");
         made.know(0, 4, "as");
         bounds.due("F ahead of M", made.all(0), "F:0 M:0");
-        Desk last = desk("G*F*G?;G;G;-.", "aa bb cc dd ee ff gg hh");
+        Desk last = Desk.of("G*F*G?;G;G;-.", "aa bb cc dd ee ff gg hh");
         bounds.due("the first", last.row(0, 0), "GGGGGGGG");
         bounds.due("unlike in the last WORD", last.row(0, 1), "GGGGGGGF");
         bounds.due("the last", last.row(0, last.readings(0, 40) - 1), "FFFFFFFF");
     }
 
     private void firstOne() {
-        Desk desk = desk("G?F?;FG;F;-.", "aa");
+        Desk desk = Desk.of("G?F?;FG;F;-.", "aa");
         bounds.due("the first is G", desk.all(0), "G:2 F:2");
         bounds.due("CALL by it", desk.callOf(0), "");
         desk.know(0, 4, "aa");
@@ -382,7 +377,7 @@ final class BoundsOfReadings {
     private void firstOfTwo(int one, int other) {
         String[] words = {"dr", "ann", "van", "de", "lee", "annson", "x"};
         String name = words[one] + " " + words[other];
-        Desk desk = desk("GG;G;G;son.", name);
+        Desk desk = Desk.of("GG;G;G;son.", name);
         for (int kind = 0; kind < 5; kind++) {
             desk.know(0, kind, words[kind]);
         }
@@ -395,13 +390,13 @@ final class BoundsOfReadings {
     }
 
     private void soMuchAtMost() {
-        Desk desk = desk("G*F*M*;G;G;s.", "as bs");
+        Desk desk = Desk.of("G*F*M*;G;G;s.", "as bs");
         desk.know(0, 4, "as");
         int[] due = {0, 0, 1, 2, 4, 5, 6, 6};
         for (int most = 0; most < due.length; most++) {
             bounds.due("readings(0, " + most + ")", desk.readings(0, most), due[most]);
         }
-        Desk dear = desk("G+;G;G;-.", "de de de de de de de de");
+        Desk dear = Desk.of("G+;G;G;-.", "de de de de de de de de");
         dear.know(0, 0, "de");
         bounds.due("39", dear.readings(0, 39), 0);
         bounds.due("40", dear.readings(0, 40), 1);
@@ -433,12 +428,12 @@ final class BoundsOfReadings {
             bounds.refused("readings(0, " + cost + ")", -1, "Ann", desk -> desk.readings(0, cost));
             bounds.refused("readings(4, " + cost + ")", -1, "Ann", desk -> desk.readings(4, cost));
         }
-        bounds.due("0", desk("I;G;G;-.", "A").readings(0, 0), 1);
-        bounds.due("-1", desk("I;G;G;-.", "A").readings(0, -1), -1);
+        bounds.due("0", Desk.of("I;G;G;-.", "A").readings(0, 0), 1);
+        bounds.due("-1", Desk.of("I;G;G;-.", "A").readings(0, -1), -1);
     }
 
     private void costFromZero() {
-        Desk desk = desk("G*F*M*;G;G;s.", "as bs");
+        Desk desk = Desk.of("G*F*M*;G;G;s.", "as bs");
         desk.know(0, 4, "as");
         int[] due = {2, 3, 4, 4, 5, 6, -1};
         for (int r = 0; r < due.length; r++) {
@@ -448,25 +443,25 @@ final class BoundsOfReadings {
 
     private void costNone() {
         for (int r : new int[] {-1, 1, 2, Bounds.LEAST, Bounds.MOST}) {
-            bounds.due("one READING, r " + r, desk("G;G;G;-.", "aa").cost(0, r), -1);
+            bounds.due("one READING, r " + r, Desk.of("G;G;G;-.", "aa").cost(0, r), -1);
             bounds.refused("cost(3, " + r + ")", r == 1 ? 2 : -1, "Ann", desk -> desk.cost(3, r));
         }
         bounds.refused("cost(4, 0)", -1, "Ann", desk -> desk.cost(4, 0));
         for (int name : new int[] {-1, 6, 30, Bounds.LEAST, Bounds.MOST}) {
             bounds.refused("cost(" + name + ", 0)", -1, "Ann", desk -> desk.cost(name, 0));
         }
-        bounds.due("one READING, r 0", desk("G;G;G;-.", "aa").cost(0, 0), 2);
+        bounds.due("one READING, r 0", Desk.of("G;G;G;-.", "aa").cost(0, 0), 2);
     }
 
     private void kindOfWord() {
-        Desk desk = desk("I*G*F;G;G;-.", "a bb cc");
+        Desk desk = Desk.of("I*G*F;G;G;-.", "a bb cc");
         int[][] due = {{6, 1, 4}, {1, 1, 4}};
         for (int r = 0; r < 2; r++) {
             for (int w = 0; w < 3; w++) {
                 bounds.due("kind(0, " + r + ", " + w + ")", desk.kind(0, r, w), due[r][w]);
             }
         }
-        Desk eight = desk("GFGFGFGI;G;G;-.", "a a a a a a a a");
+        Desk eight = Desk.of("GFGFGFGI;G;G;-.", "a a a a a a a a");
         int[] kinds = {1, 4, 1, 4, 1, 4, 1, 6, -1};
         for (int w = 0; w < 9; w++) {
             bounds.due("kind(0, 0, " + w + ")", eight.kind(0, 0, w), kinds[w]);

@@ -10,6 +10,16 @@ final class Desk {
     private final NameDesk desk = new NameDesk();
     private int calls = 0;
 
+    /** A desk whose LAND 0 has this SHAPE and these NAMES. */
+    static Desk of(String shape, String... names) {
+        Desk desk = new Desk();
+        desk.shape(0, shape);
+        for (String name : names) {
+            desk.name(0, name);
+        }
+        return desk;
+    }
+
     private NameDesk called() {
         calls++;
         if (calls > CALLS) {
